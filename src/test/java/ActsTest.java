@@ -68,7 +68,7 @@ public final class ActsTest {
         D.stands(x, 0, "", 0);
         D.stands(x, 0, " \n ", 1);
         D.stands(x, 0, "sleeve 9999 all always fine 9999; stuff 15 ranks 0 to 9 wedding fine 0;"
-                + " colour 7 all feast fine 1; must 0 ranks 9 to 9 daily fine 2;", 2);
+                + " colour 7 all feast fine 1; must 0 ranks 9 to 9 daily fine 2; must 7 all always fine 1;", 2);
         D.stands(x, 0, "repeal 0; seal 0; part 0; repeal 1;", 3);
         D.stands(x, 0, "part 100; seal 9999;", 4);
         D.stands(x, 9999, "repeal 4; repeal 3; repeal 2;", 5);
@@ -95,6 +95,12 @@ public final class ActsTest {
         D.faulty(x, 0, "  fine", 1, 2);
         D.faulty(x, 0, "Cost 1 all always fine 1;", 1, 0);
         D.faulty(x, 0, "costs 1 all always fine 1;", 1, 0);
+        D.faulty(x, 0, "costz 1 all always fine 1;", 1, 0);
+        D.faulty(x, 0, "lost 1 all always fine 1;", 1, 0);
+        D.faulty(x, 0, "cart 1;", 1, 0);
+        D.faulty(x, 0, "cost{1 all always fine 1;", 1, 4);
+        D.faulty(x, 0, "cost`1 all always fine 1;", 1, 4);
+        D.faulty(x, 0, "seal 1/;", 1, 6);
         D.faulty(x, 0, "cos 1 all always fine 1;", 1, 0);
         D.faulty(x, 0, "cost all always fine 1;", 1, 5);
         D.faulty(x, 0, "cost 1 always fine 1;", 1, 7);
@@ -181,6 +187,9 @@ public final class ActsTest {
         D.stands(x, 0, twelve + "seal 1; part 2; repeal 0;", 1);
         D.stands(x, 0, LINE, 2);
         D.due("rules anew", x.told(2, 1), 1);
+        D.faulty(x, 0, LINE + LINE + "x", 1, 50);
+        D.stands(x, 0, LINE, 3);
+        D.due("a rule of a faulty text", x.rule(3, 1, 0), -9);
     }
 
     private static void firstFault() {

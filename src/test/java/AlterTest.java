@@ -85,6 +85,21 @@ public final class AlterTest {
         }
         D.due("half of the stuffs", y.alter(0, 0, 0), 1);
         D.due("all of the stuffs", y.alter(0, 0, 1), -1);
+        oneStuffLeft(0);
+        oneStuffLeft(15);
+    }
+
+    private static void oneStuffLeft(int left) {
+        GownCourt x = new GownCourt();
+        x.gown(0, 0, 0, 0, 0, 5, 0);
+        for (int half = 0; half < 2; half++) {
+            StringBuilder text = new StringBuilder();
+            for (int stuff = 8 * half; stuff < 8 * half + 8; stuff++) {
+                text.append(stuff == left ? "" : "stuff " + stuff + " all always fine 1;");
+            }
+            Due.act(x, 0, text.toString());
+        }
+        D.due("stuff " + left + " is left", x.alter(0, 0, 0), 1);
     }
 
     private static void colours() {

@@ -14,6 +14,7 @@ public final class JudgingTest {
         wrongLetters();
         parts();
         dismissed();
+        dismissedByTheFirst();
         falseOnes();
         counts();
         D.close();
@@ -239,6 +240,24 @@ public final class JudgingTest {
         D.due("convicted thrice", x.person(1, 0), 3);
         D.due("dismissed is judged", x.judge(2), -4);
         D.due("paid", x.person(1, 1), 10 + 20 + 30);
+    }
+
+    private static void dismissedByTheFirst() {
+        GownCourt x = new GownCourt();
+        x.gown(1, 0, 0, 0, 0, 0, 0);
+        Due.act(x, 0, "sleeve 0 all always fine 1;");
+        Due.act(x, 1, "sleeve 0 all always fine 9998;");
+        x.letter(0, 1, 0, 0);
+        x.letter(0, 1, 0, 0);
+        x.letter(0, 1, 0, 1);
+        x.letter(0, 1, 0, 1);
+        D.due("a fine of 1", x.judge(0), 1);
+        D.due("dismissed", x.judge(1), 3);
+        D.due("a later letter first", x.judge(3), 1);
+        D.due("its fine", x.lettered(3, 5), 2 * 9999);
+        D.due("no act has a part", x.lettered(3, 6), 0);
+        D.due("an earlier letter dismissed", x.judge(2), 3);
+        D.due("chest", x.count(3), 1 + 2 * 9999);
     }
 
     private static void falseOnes() {
