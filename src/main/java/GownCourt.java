@@ -203,11 +203,15 @@ public final class GownCourt {
     // ---- acts
 
     public int act(int day) {
-        if (!isDay(day) || day < codex.latestFirstDay()) {
+        boolean mayBegin = isDay(day) && day >= codex.latestFirstDay();
+        if (mayBegin) {
+            reader.read(codex.size());
+        }
+        // Whatever the answer, no text is left for the next act to begin with.
+        tape.cutTo(0);
+        if (!mayBegin) {
             return RANGE;
         }
-        reader.read(codex.size());
-        tape.cutTo(0);
         if (reader.faultKind() != 0) {
             return NONE;
         }

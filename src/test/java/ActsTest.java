@@ -9,11 +9,13 @@ public final class ActsTest {
         texts();
         blanks();
         syntaxFaults();
+        ends();
         rangeFaults();
         twiceFaults();
         roomFaults();
         firstFault();
         actOrder();
+        emptyBehindRange();
         faultsKept();
         toldAndRule();
         force();
@@ -125,10 +127,10 @@ public final class ActsTest {
         D.faulty(x, 0, "cost 1 all always fine 99999;", 1, 23);
         D.faulty(x, 0, "seal 1; \u00e9", 1, 8);
         D.faulty(x, 0, "seal 1; \u00ff", 1, 8);
-        ends(x);
     }
 
-    private static void ends(GownCourt x) {
+    private static void ends() {
+        GownCourt x = new GownCourt();
         D.faulty(x, 0, "seal 1", 1, 6);
         D.faulty(x, 0, "seal 1 \n ", 1, 9);
         D.faulty(x, 0, "seal", 1, 4);
@@ -202,14 +204,11 @@ public final class ActsTest {
 
     private static void actOrder() {
         GownCourt x = new GownCourt();
-        D.due("act(-1)", Due.act(x, -1, LINE), -2);
-        D.due("the tape is as it was", x.count(6), LINE.length());
-        D.due("act(10000)", x.act(10000), -2);
-        D.due("act(7)", x.act(7), 0);
+        D.due("act(7)", Due.act(x, 7, LINE), 0);
         D.due("the tape is empty", x.count(6), 0);
-        D.due("act(6), a day below", Due.act(x, 6, "x"), -2);
+        D.due("act(6), a day below, of a fault", Due.act(x, 6, "x"), -2);
         D.due("fault(0) of the one before", x.fault(0), 0);
-        D.due("act(7) of x", x.act(7), -1);
+        D.due("act(7) of x", Due.act(x, 7, "x"), -1);
         for (int a = 1; a < 12; a++) {
             D.due("act " + a, Due.act(x, 7 + a, "repeal " + (a - 1) + ";"), a);
         }
@@ -217,13 +216,52 @@ public final class ActsTest {
         D.due("its fault", x.fault(0), 2);
         D.due("the 13th on a day below", Due.act(x, 17, "x"), -2);
         D.due("the fault before", x.fault(0), 2);
-        x.end(0);
+        D.due("the tape behind it", x.count(6), 0);
         D.due("the 13th", Due.act(x, 18, "repeal 11;"), -3);
         D.due("fault(0) of the 13th", x.fault(0), 0);
         D.due("fault(1) of the 13th", x.fault(1), -1);
         D.due("tape of the 13th", x.count(6), 0);
         D.due("count(0)", x.count(0), 12);
         D.due("act 11 is in force still", x.force(18), 1 << 11);
+    }
+
+    /** Both reasons for RANGE: no such day, and a day below that of the latest act. */
+    private static void emptyBehindRange() {
+        int[] never = {-1, 10000, Integer.MIN_VALUE, Integer.MAX_VALUE};
+        for (int wrong : never) {
+            leavesNothing(new GownCourt(), wrong, 0);
+            leavesNothing(withActOn(7), wrong, 7);
+        }
+        leavesNothing(withActOn(7), 6, 7);
+        leavesNothing(withActOn(7), 0, 8);
+        leavesNothing(withActOn(9999), 9998, 9999);
+    }
+
+    private static GownCourt withActOn(int day) {
+        GownCourt x = new GownCourt();
+        D.stands(x, day, "", 0);
+        return x;
+    }
+
+    /** An act on a day that is RANGE empties the tape, is no act, and leaves the fault as it was. */
+    private static void leavesNothing(GownCourt x, int wrong, int right) {
+        String call = "act(" + wrong + ") ";
+        int acts = x.count(0);
+        D.faulty(x, right, "seal 1; seal 2;", 3, 8);
+        D.due(call + "of a text", Due.act(x, wrong, "seal 3;"), -2);
+        D.due(call + "of nothing", x.act(wrong), -2);
+        D.due(call + "empties the tape", x.count(6), 0);
+        D.due("end(1) behind " + call, x.end(1), -1);
+        D.due("feed behind " + call, x.feed(0, 0, 0, 0, 0), 20);
+        D.due(call + "of another fault", x.act(wrong), -2);
+        D.due("fault(0) behind " + call, x.fault(0), 3);
+        D.due("fault(1) behind " + call, x.fault(1), 8);
+        D.due(call + "is no act", x.count(0), acts);
+        D.stands(x, right, "part 4;", acts);
+        D.due("seal of the next behind " + call, x.told(acts, 2), 0);
+        D.due("part of the next behind " + call, x.told(acts, 3), 4);
+        D.due(call + "of a full tape", Due.act(x, wrong, " ".repeat(800)), -2);
+        D.due(call + "empties a full tape", x.count(6), 0);
     }
 
     private static void faultsKept() {

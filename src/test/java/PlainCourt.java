@@ -292,6 +292,7 @@ final class PlainCourt {
 
     int act(int d) {
         if (!day(d) || !laws.isEmpty() && d < laws.get(laws.size() - 1).day) {
+            tape.clear();
             return -2;
         }
         Law law = new Law();
