@@ -9,10 +9,6 @@ public final class ActsTest {
         texts();
         blanks();
         syntaxFaults();
-        ends();
-        rangeFaults();
-        twiceFaults();
-        roomFaults();
         firstFault();
         actOrder();
         emptyBehindRange();
@@ -127,71 +123,6 @@ public final class ActsTest {
         D.faulty(x, 0, "cost 1 all always fine 99999;", 1, 23);
         D.faulty(x, 0, "seal 1; \u00e9", 1, 8);
         D.faulty(x, 0, "seal 1; \u00ff", 1, 8);
-    }
-
-    private static void ends() {
-        GownCourt x = new GownCourt();
-        D.faulty(x, 0, "seal 1", 1, 6);
-        D.faulty(x, 0, "seal 1 \n ", 1, 9);
-        D.faulty(x, 0, "seal", 1, 4);
-        D.faulty(x, 0, "cost", 1, 4);
-        D.faulty(x, 0, "cost 1", 1, 6);
-        D.faulty(x, 0, "cost 1 all", 1, 10);
-        D.faulty(x, 0, "cost 1 ranks", 1, 12);
-        D.faulty(x, 0, "cost 1 ranks 1", 1, 14);
-        D.faulty(x, 0, "cost 1 ranks 1 to", 1, 17);
-        D.faulty(x, 0, "cost 1 ranks 1 to 2", 1, 19);
-        D.faulty(x, 0, "cost 1 all always", 1, 17);
-        D.faulty(x, 0, "cost 1 all always fine", 1, 22);
-        D.faulty(x, 0, "cost 1 all always fine 1", 1, 24);
-        D.faulty(x, 0, " ".repeat(796) + "seal", 1, 800);
-        D.faulty(x, 0, "a".repeat(800), 1, 0);
-        D.faulty(x, 0, "1".repeat(800), 1, 0);
-    }
-
-    private static void rangeFaults() {
-        GownCourt x = new GownCourt();
-        D.faulty(x, 0, "stuff 16 all always fine 1;", 2, 6);
-        D.faulty(x, 0, "colour 8 all always fine 1;", 2, 7);
-        D.faulty(x, 0, "must 8 all always fine 1;", 2, 5);
-        D.faulty(x, 0, "cost 1 ranks 10 to 10 always fine 1;", 2, 13);
-        D.faulty(x, 0, "cost 1 ranks 1 to 10 always fine 1;", 2, 18);
-        D.faulty(x, 0, "cost 1 ranks 5 to 4 always fine 1;", 2, 18);
-        D.faulty(x, 0, "part 101;", 2, 5);
-        D.faulty(x, 0, "repeal 0;", 2, 7);
-        D.stands(x, 0, "", 0);
-        D.faulty(x, 0, "repeal 0; repeal 1;", 2, 17);
-        D.stands(x, 0, "repeal 0;", 1);
-        D.stands(x, 0, "repeal 0; repeal 1;", 2);
-    }
-
-    private static void twiceFaults() {
-        GownCourt x = new GownCourt();
-        D.faulty(x, 0, "seal 0; seal 0;", 3, 8);
-        D.faulty(x, 0, "seal 1;seal", 3, 7);
-        D.faulty(x, 0, "part 0; seal 0; part 5;", 3, 16);
-        D.faulty(x, 0, "part 1; part x", 3, 8);
-        D.stands(x, 0, "", 0);
-        D.stands(x, 0, "", 1);
-        D.faulty(x, 0, "repeal 0; repeal 1; repeal 0", 3, 27);
-        D.stands(x, 0, "seal 1; part 1;", 2);
-        D.due("what a fault told is gone", x.told(2, 4), 0);
-    }
-
-    private static void roomFaults() {
-        GownCourt x = new GownCourt();
-        String twelve = LINE.repeat(12);
-        D.stands(x, 0, twelve, 0);
-        D.due("its rules", x.told(0, 1), 12);
-        D.faulty(x, 0, twelve + " cost", 4, 301);
-        D.faulty(x, 0, twelve + "must x", 4, 300);
-        D.faulty(x, 0, twelve + "musty 1", 1, 300);
-        D.stands(x, 0, twelve + "seal 1; part 2; repeal 0;", 1);
-        D.stands(x, 0, LINE, 2);
-        D.due("rules anew", x.told(2, 1), 1);
-        D.faulty(x, 0, LINE + LINE + "x", 1, 50);
-        D.stands(x, 0, LINE, 3);
-        D.due("a rule of a faulty text", x.rule(3, 1, 0), -9);
     }
 
     private static void firstFault() {

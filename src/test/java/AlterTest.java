@@ -8,12 +8,10 @@ public final class AlterTest {
         stuffs();
         colours();
         letAndUnbound();
-        wrongAlter();
         best();
         worn();
         wornAsDaily();
         wornOfLetGowns();
-        wrongWorn();
         D.close();
     }
 
@@ -142,19 +140,6 @@ public final class AlterTest {
         D.due("at a feast", x.alter(0, 0, 40), 5);
     }
 
-    private static void wrongAlter() {
-        GownCourt x = new GownCourt();
-        D.due("no gown", x.alter(0, 0, 0), -2);
-        x.gown(1, 0, 0, 0, 0, 0, 0);
-        int[][] wrong = {{-1, 0, 0}, {30, 0, 0}, {0, -1, 0}, {0, 1, 0}, {0, 0, -1}, {0, 0, 10000}};
-        for (int[] w : wrong) {
-            D.due("alter", x.alter(w[0], w[1], w[2]), -2);
-            D.due("best", x.best(w[0], w[1], w[2]), -2);
-        }
-        D.due("alter without acts", x.alter(0, 0, 0), 0);
-        D.due("best without acts", x.best(0, 0, 0), 0);
-    }
-
     private static void best() {
         GownCourt x = new GownCourt();
         x.gown(10, 0, 0, 0, 0, 0, 0);
@@ -209,19 +194,5 @@ public final class AlterTest {
         Due.act(x, 10, "seal 5; sleeve 0 all always fine 1;");
         D.due("how many", x.worn(0, 0, 0, 99, 0), 15);
         D.due("the last", x.worn(0, 0, 0, 99, 2), 14);
-    }
-
-    private static void wrongWorn() {
-        GownCourt x = new GownCourt();
-        D.due("no gown", x.worn(0, 5, 0, 0, 0), -2);
-        x.gown(10, 0, 0, 0, 0, 0, 0);
-        int[][] wrong = {{-1, 5, 0, 0, 0}, {1, 5, 0, 0, 0}, {0, -1, 0, 0, 0}, {0, 10, 0, 0, 0}, {0, 5, -1, 0, 0},
-            {0, 5, 1, 0, 0}, {0, 5, 0, 500, 0}, {0, 5, 9999, 10000, 0}, {0, 5, 0, 0, -1}, {0, 5, 0, 0, 3},
-            {0, 5, Integer.MIN_VALUE, Integer.MAX_VALUE, 0}, {0, 5, 0, Integer.MAX_VALUE, 0}};
-        for (int[] w : wrong) {
-            D.due("worn", x.worn(w[0], w[1], w[2], w[3], w[4]), -2);
-        }
-        D.due("500 days", x.worn(0, 5, 0, 499, 0), 500);
-        D.due("500 days of the last", x.worn(0, 9, 9500, 9999, 2), 9999);
     }
 }

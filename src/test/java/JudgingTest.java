@@ -8,10 +8,8 @@ public final class JudgingTest {
         ranksAndOccasions();
         letGowns();
         repealed();
-        wrongFine();
         growing();
         letters();
-        wrongLetters();
         parts();
         dismissed();
         dismissedByTheFirst();
@@ -104,23 +102,6 @@ public final class JudgingTest {
         D.due("broken of 20", x.broken(0, 0, 20, 0), 0);
     }
 
-    private static void wrongFine() {
-        GownCourt x = new GownCourt();
-        D.due("no gown", x.fine(0, 0, 0), -2);
-        x.gown(1, 0, 0, 0, 0, 0, 0);
-        D.due("no act", x.broken(0, 0, 0, 0), -2);
-        Due.act(x, 10, "");
-        int[][] wrong = {{-1, 0, 0}, {30, 0, 0}, {0, -1, 0}, {0, 1, 0}, {0, 0, -1}, {0, 0, 10000}};
-        for (int[] w : wrong) {
-            D.due("fine", x.fine(w[0], w[1], w[2]), -2);
-            D.due("broken", x.broken(w[0], w[1], w[2], 0), -2);
-        }
-        D.due("act -1", x.broken(0, 0, 0, -1), -2);
-        D.due("act 1", x.broken(0, 0, 0, 1), -2);
-        D.due("act 0", x.broken(0, 0, 0, 0), 0);
-        D.due("fine", x.fine(29, 0, 9999), 0);
-    }
-
     private static void growing() {
         GownCourt x = new GownCourt();
         x.gown(1, 0, 0, 0, 0, 0, 0);
@@ -165,28 +146,6 @@ public final class JudgingTest {
         D.due("letter 59", x.lettered(59, 3), 59);
         D.due("letter 60", x.lettered(60, 3), -9);
         D.due("count(2)", x.count(2), 60);
-    }
-
-    private static void wrongLetters() {
-        GownCourt x = new GownCourt();
-        D.due("no gown", x.letter(0, 1, 0, 0), -2);
-        x.gown(0, 0, 0, 0, 0, 0, 0);
-        int[][] wrong = {{-1, 0, 0, 0}, {30, 0, 0, 0}, {0, -1, 0, 0}, {0, 30, 0, 0}, {0, 0, 0, 0},
-            {0, 1, -1, 0}, {0, 1, 1, 0}, {0, 1, 0, -1}, {0, 1, 0, 10000}};
-        for (int[] w : wrong) {
-            D.due("letter", x.letter(w[0], w[1], w[2], w[3]), -2);
-        }
-        D.due("count(2)", x.count(2), 0);
-        D.due("judge(0)", x.judge(0), -2);
-        x.letter(0, 29, 0, 9999);
-        D.due("judge(-1)", x.judge(-1), -2);
-        D.due("judge(1)", x.judge(1), -2);
-        D.due("judge(0)", x.judge(0), 2);
-        D.due("judge(0) again", x.judge(0), -4);
-        D.due("person(-1, 0)", x.person(-1, 0), -2);
-        D.due("person(30, 0)", x.person(30, 0), -2);
-        D.due("person(0, 3)", x.person(0, 3), -2);
-        D.due("person(0, -1)", x.person(0, -1), -2);
     }
 
     private static void parts() {

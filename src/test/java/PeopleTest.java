@@ -5,11 +5,9 @@ public final class PeopleTest {
     public static void main(String[] args) {
         newObject();
         ranks();
-        rankEdges();
         feasts();
         weddings();
         occasions();
-        wrongOn();
         D.close();
     }
 
@@ -54,28 +52,6 @@ public final class PeopleTest {
         D.due("rank on the last day", x.rank(3, 9999, 9), 4);
         D.due("on 9998", x.on(3, 9998, 0), 1);
         D.due("on 9999", x.on(3, 9999, 0), 9);
-    }
-
-    private static void rankEdges() {
-        GownCourt x = new GownCourt();
-        D.due("rank(-1, 0, 0)", x.rank(-1, 0, 0), -2);
-        D.due("rank(30, 0, 0)", x.rank(30, 0, 0), -2);
-        D.due("rank(0, -1, 0)", x.rank(0, -1, 0), -2);
-        D.due("rank(0, 10000, 0)", x.rank(0, 10000, 0), -2);
-        D.due("rank(0, 0, -1)", x.rank(0, 0, -1), -2);
-        D.due("rank(0, 0, 10)", x.rank(0, 0, 10), -2);
-        for (int i = 1; i <= 12; i++) {
-            D.due("rank(29, i, 9)", x.rank(29, i, i % 10), i);
-        }
-        D.due("the 13th change", x.rank(29, 50, 9), -3);
-        D.due("the 13th change that can't be", x.rank(29, 50, 10), -2);
-        D.due("on behind it", x.on(29, 50, 0), 2);
-        for (int p = 0; p < 29; p++) {
-            for (int i = 1; i <= 12; i++) {
-                D.due("rank of all", x.rank(p, p, 1), i);
-            }
-        }
-        D.due("on of all", x.on(28, 28, 0), 1);
     }
 
     private static void feasts() {
@@ -131,15 +107,5 @@ public final class PeopleTest {
         D.due("on 120", x.on(0, 120, 1), 1);
         D.due("on 121", x.on(0, 121, 1), 0);
         D.due("on 9999", x.on(0, 9999, 1), 2);
-    }
-
-    private static void wrongOn() {
-        GownCourt x = new GownCourt();
-        D.due("on(-1, 0, 0)", x.on(-1, 0, 0), -2);
-        D.due("on(30, 0, 0)", x.on(30, 0, 0), -2);
-        D.due("on(0, -1, 0)", x.on(0, -1, 0), -2);
-        D.due("on(0, 10000, 0)", x.on(0, 10000, 0), -2);
-        D.due("on(0, 0, -1)", x.on(0, 0, -1), -2);
-        D.due("on(0, 0, 2)", x.on(0, 0, 2), -2);
     }
 }
