@@ -53,8 +53,7 @@ public final class GownCourt {
     // The feasts are everyone's: they share the form of the weddings, under one key.
     private static final int CITY = 0;
 
-    private final Tape tape = new Tape();
-    private final Reader reader = new Reader(tape);
+    private final Reader reader = new Reader();
     private final Codex codex = new Codex();
     private final Rows ranks = new Rows(PEOPLE * MOST_RANK_CHANGES);
     private final Rows weddings = new Rows(PEOPLE * MOST_WEDDINGS);
@@ -73,10 +72,13 @@ public final class GownCourt {
     private final Bounds bounds = new Bounds();
 
     public GownCourt() {
-        Arrays.fill(prices, 1);
+        for (int k = 0; k < prices.length; k++) {
+            prices[k] = 1;
+        }
     }
 
     public int feed(int a, int b, int c, int d, int e) {
+        Tape tape = reader.tape;
         if (tape.size() + FEED_BYTES > TAPE_BYTES) {
             return FULL;
         }
@@ -89,10 +91,10 @@ public final class GownCourt {
     }
 
     public int end(int n) {
-        if (n < 0 || n > tape.size()) {
+        if (n < 0 || n > reader.tape.size()) {
             return NONE;
         }
-        tape.cutTo(n);
+        reader.tape.cutTo(n);
         return n;
     }
 
@@ -208,7 +210,7 @@ public final class GownCourt {
             reader.read(codex.size());
         }
         // Whatever the answer, no text is left for the next act to begin with.
-        tape.cutTo(0);
+        reader.tape.cutTo(0);
         if (!mayBegin) {
             return RANGE;
         }
@@ -409,7 +411,7 @@ public final class GownCourt {
             case 3: return chest;
             case 4: return likes.size();
             case 5: return feasts.size();
-            case 6: return tape.size();
+            case 6: return reader.tape.size();
             default: return NONE;
         }
     }
@@ -608,9 +610,10 @@ public final class GownCourt {
         private int size = 0;
 
         Rows(int room) {
-            keys = new int[room];
-            days = new int[room];
-            numbers = new int[room];
+            int length = Math.max(0, room);
+            keys = new int[length];
+            days = new int[length];
+            numbers = new int[length];
         }
 
         int size() {
@@ -979,7 +982,7 @@ public final class GownCourt {
         }
     }
 
-    /** Reads the tape token by token into a draft of an act, up to the first fault. */
+    /** Has the tape, and reads it token by token into a draft of an act, up to the first fault. */
     private static final class Reader {
         private static final int SYNTAX = 1;
         private static final int OUT_OF_BOUNDS = 2;
@@ -1008,7 +1011,7 @@ public final class GownCourt {
         private static final int AT_PART = 11;
         private static final int AT_SEMICOLON = 12;
 
-        private final Tape tape;
+        private final Tape tape = new Tape();
         private Act draft = new Act();
         private int actsThere = 0;
         private int faultKind = 0;
@@ -1025,10 +1028,6 @@ public final class GownCourt {
         private int lowRank = 0;
         private int highRank = TOP_RANK;
         private int when = ALWAYS;
-
-        Reader(Tape tape) {
-            this.tape = tape;
-        }
 
         int faultKind() {
             return faultKind;

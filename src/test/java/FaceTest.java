@@ -23,6 +23,7 @@ public final class FaceTest {
         methods();
         nested();
         text();
+        constructors();
         D.close();
     }
 
@@ -91,9 +92,13 @@ public final class FaceTest {
         D.due(c.getName() + " has at most twenty fields", Math.max(own, 20), 20);
     }
 
-    private static void text() throws Exception {
+    private static String code() throws Exception {
         String source = Files.readString(Path.of("src/main/java/GownCourt.java"));
-        String code = source.replaceAll("(?s)/\\*.*?\\*/", "").replaceAll("//[^\\n]*", "").replaceAll("\"[^\"]*\"", "\"\"");
+        return source.replaceAll("(?s)/\\*.*?\\*/", "").replaceAll("//[^\\n]*", "").replaceAll("\"[^\"]*\"", "\"\"");
+    }
+
+    private static void text() throws Exception {
+        String code = code();
         for (String word : BANNED) {
             boolean letters = Character.isLetter(word.charAt(0));
             Matcher m = Pattern.compile(letters ? "\\b" + Pattern.quote(word) + "\\b" : Pattern.quote(word)).matcher(code);
@@ -107,5 +112,25 @@ public final class FaceTest {
             D.due("lines of a method, at most sixty: " + m.group().split("\\n")[0].trim(), Math.max(lines, 60), 60);
         }
         D.due("methods were found", Math.min(methods, 100), 100);
+    }
+
+    /** Rule 12: a constructor hands out nothing of the object that it makes; its fields' first values are part of it. */
+    private static void constructors() throws Exception {
+        Matcher field = Pattern.compile("(?m)^ +private (?:final )?\\w+ (\\w+) = new \\w+\\((.*)\\);$").matcher(code());
+        int fields = 0;
+        while (field.find()) {
+            fields++;
+            boolean constants = field.group(2).matches("[A-Z_0-9*, ]*");
+            D.due("the first value of '" + field.group(1) + "' is made of constants alone", constants ? 1 : 0, 1);
+        }
+        D.due("fields made with their object were found", Math.min(fields, 9), 9);
+        Matcher body = Pattern.compile("(?m)^( +)(?:public )?([A-Z]\\w+)\\([^)]*\\) \\{\\n((?s:.*?))\\n\\1\\}").matcher(code());
+        int bodies = 0;
+        while (body.find()) {
+            bodies++;
+            boolean calls = Pattern.compile("\\w\\(").matcher(body.group(3).replace("Math.max(", "")).find();
+            D.due("a call stands in the constructor of " + body.group(2), calls ? 1 : 0, 0);
+        }
+        D.due("constructors were found", Math.min(bodies, 5), 5);
     }
 }
