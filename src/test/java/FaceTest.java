@@ -24,6 +24,7 @@ public final class FaceTest {
         nested();
         text();
         constructors();
+        lengths();
         D.close();
     }
 
@@ -132,5 +133,19 @@ public final class FaceTest {
             D.due("a call stands in the constructor of " + body.group(2), calls ? 1 : 0, 0);
         }
         D.due("constructors were found", Math.min(bodies, 5), 5);
+    }
+
+    /** The length of a new array is a constant, or was made 0 at least just before. */
+    private static void lengths() throws Exception {
+        String code = code();
+        Matcher made = Pattern.compile("new \\w+\\[(.*?)\\]").matcher(code);
+        int arrays = 0;
+        while (made.find()) {
+            arrays++;
+            String length = made.group(1);
+            boolean tested = length.matches("[A-Z_]+") || code.contains("int " + length + " = Math.max(0, ");
+            D.due("the length '" + length + "' of a new array is tested", tested ? 1 : 0, 1);
+        }
+        D.due("new arrays were found", Math.min(arrays, 10), 10);
     }
 }
